@@ -12,6 +12,7 @@ public final class PlansTest {
         lighterShadesComeFirst();
         theVatBeginsAsItIs();
         theFirstOfSeveralBestOrders();
+        oneVatIsAskedBehindAnother();
         Check.close();
     }
 
@@ -194,5 +195,22 @@ public final class PlansTest {
         d.plan(3, 0);
         // Lots 4 and 5 have light 0 and fit the vat; ahead of lot 3 it is cleaned in any case.
         best(d, 0, 18, 3);
+    }
+
+    private static void oneVatIsAskedBehindAnother() {
+        DyehouseLedger d = withOrders();
+        for (int i = 0; i < 4; i++) {
+            d.addLot(i, 10 + 50 * i);
+        }
+        d.plan(0, 0);
+        d.plan(1, 0);
+        d.plan(2, 1);
+        d.plan(3, 1);
+        Check.due("firstOf(1) asked first", d.firstOf(1), 3);
+        Check.due("leastHours(0)", d.leastHours(0), 11);
+        Check.due("firstOf(1) behind leastHours(0)", d.firstOf(1), 3);
+        Check.due("leastByAll(0) behind firstOf(1)", d.leastByAll(0), 11);
+        Check.due("leastHours(1) behind leastByAll(0)", d.leastHours(1), 15);
+        Check.due("firstOf(0) behind leastHours(1)", d.firstOf(0), 1);
     }
 }
