@@ -17,6 +17,7 @@ public final class EdgesOfAnswersTest {
         byRisingNumbers();
         noHoursWithoutLots();
         theFirstWithTheLowestNumber();
+        theFirstBehindACleaning();
         partsOfAShade();
         theSameLotTwice();
         theNearestWithTheLowestNumber();
@@ -237,6 +238,33 @@ public final class EdgesOfAnswersTest {
         Check.due("asking plans nothing", d.planned(0), 2);
     }
 
+    /** Promise 23: a cleaning ahead of the first lot itself counts. */
+    private static void theFirstBehindACleaning() {
+        DyehouseLedger d = new DyehouseLedger();
+        d.addVat(300);
+        int[] lights = {3, 12, 15, 14, 3};
+        for (int i = 0; i < lights.length; i++) {
+            d.addRecipe(lights[i], 10, 10);
+            d.addOrder(0, i, 30, 0, 0);
+            d.addLot(i, 10);
+        }
+        d.dye(0, 0, 10, 10, 10);
+        d.plan(1, 0);
+        d.plan(2, 0);
+        d.plan(3, 0);
+        Check.due("one cleaning", d.leastHours(0), 18);
+        Check.due("ahead of the lightest one", d.firstOf(0), 2);
+        d.plan(4, 0);
+        Check.due("one cleaning with a darker lot", d.leastHours(0), 23);
+        Check.due("ahead of the lightest one or behind the darker one", d.firstOf(0), 2);
+        d.unplan(2);
+        Check.due("the next lightest one", d.firstOf(0), 3);
+        d.unplan(3);
+        Check.due("the only light one", d.firstOf(0), 1);
+        d.unplan(1);
+        Check.due("without a cleaning", d.firstOf(0), 4);
+    }
+
     /** Promise 27: "0 for how light it is, 1 for how red, 2 for how blue" */
     private static void partsOfAShade() {
         DyehouseLedger d = house(30);
@@ -289,9 +317,9 @@ public final class EdgesOfAnswersTest {
      * less blue, then the one with the lower number"
      */
     private static void theOrderByLight() {
-        DyehouseLedger d = house(30);
+        DyehouseLedger d = house(28);
         int[][] shades = {
-            {5, 5, 5}, {5, 5, 5}, {5, 5, 4}, {5, 4, 20}, {6, 20, 20}, {4, 0, 0}, {20, 20, 20}, {0, 0, 0}, {20, 20, 19}, {5, 5, 5},
+            {5, 9, 12}, {5, 9, 12}, {5, 9, 11}, {5, 8, 20}, {6, 20, 20}, {4, 0, 0}, {20, 20, 20}, {0, 0, 0}, {20, 20, 19}, {5, 9, 12},
         };
         for (int[] shade : shades) {
             dyed(d, shade[0], shade[1], shade[2]);
@@ -305,7 +333,15 @@ public final class EdgesOfAnswersTest {
         d.addLot(0, 10);
         Check.throwsOnly(IndexOutOfBoundsException.class, "a waiting lot has no place", () -> d.byLight(10));
         d.judge(8);
-        Check.due("a passed or refused one keeps it", d.byLight(0), 8);
+        d.judge(0);
+        Check.due("the lightest one is refused", d.stateOf(8), 'x');
+        Check.due("a refused one keeps its place", d.byLight(0), 8);
+        Check.due("a passed one too", d.byLight(5), 0);
+        Check.due("and those behind them", d.byLight(9), 7);
+        d.again(8);
+        Check.due("one that waits again has none", d.byLight(0), 6);
+        Check.due("those behind it come up", d.byLight(8), 7);
+        Check.throwsOnly(IndexOutOfBoundsException.class, "one place less", () -> d.byLight(9));
     }
 
     /** Promise 39: "0 for fewer than two lots" */
