@@ -401,6 +401,9 @@ public final class TermsOfThingsTest {
         d.again(1);
         Check.due("though that lot waits again", d.lightIn(0), 0);
         Check.throwsOnly(IllegalStateException.class, "another vat has none", () -> d.lightIn(1));
+        d.dye(1, 1, 15, 10, 10);
+        Check.due("though that lot is dyed again elsewhere", d.lightIn(0), 0);
+        Check.due("where it was dyed last", d.lightIn(1), 15);
         d.clean(0);
         Check.throwsOnly(IllegalStateException.class, "no shade once cleaned", () -> d.lightIn(0));
         d.clean(0);
